@@ -18,7 +18,7 @@ public final class LostSheets {
     private static final int CELLS = 16, ALL_CELLS = 65535, MARKS = 8, WAYS = 4;
     private static final int DRAWERS = 6, SHEET_ROWS = 8, ROW_PARTS = 4, DIGIT = 9, DREW_MOST = 9999;
     private static final int KINDS = 7;
-    private static final int KIND_DRAWER = 0, KIND_CLERK = 1, KIND_CHILD = 2, KIND_LOVER = 3;
+    private static final int KIND_CLERK = 1, KIND_CHILD = 2, KIND_LOVER = 3;
     private static final int KIND_GENERAL = 4, KIND_SHEPHERD = 5, KIND_TOLD = 6;
     /** The kind above each kind; -1 above the first. */
     private static final int[] ABOVE = {-1, 0, 0, 0, 1, 2, 3};
@@ -250,7 +250,7 @@ public final class LostSheets {
         if (what == 0) {
             return Integer.bitCount(possible);
         }
-        return possible == 0 ? NEVER : Integer.numberOfTrailingZeros(possible);
+        return leastOf(possible);
     }
 
     public long odds(int drawer, int n, int part) {
@@ -362,12 +362,7 @@ public final class LostSheets {
     }
 
     public int act(int drawer, int act, int x) {
-        bodies.ran = 0;
-        Drawer d = now.drawerAt(drawer);
-        if (d == null || act < 0 || act >= ACTS) {
-            return 0;
-        }
-        return bodies.run(d, d.kind, act, x, 0);
+        return bodies.ofAct(now.drawerAt(drawer), act, x);
     }
 
     public int trace(int i) {
@@ -597,6 +592,15 @@ public final class LostSheets {
             }
         }
         return bits;
+    }
+
+    private static int leastOf(int bits) {
+        for (int v = 0; v <= DIGIT; v++) {
+            if ((bits >> v & 1) == 1) {
+                return v;
+            }
+        }
+        return NEVER;
     }
 
     /** Whether all of SEEN is so, going on from how the trial is. */
@@ -1238,12 +1242,17 @@ public final class LostSheets {
                 return false;
             }
             place++;
-            if (sign == '(') {
-                return anyOf(within + 1) && takes(')');
-            }
-            boolean good = one(within + 1);
+            return sign == '!' ? not(within + 1) : inBrackets(within + 1);
+        }
+
+        private boolean not(int within) {
+            boolean good = one(within);
             into.append(Office.NOT, 0);
             return good;
+        }
+
+        private boolean inBrackets(int within) {
+            return anyOf(within) && takes(')');
         }
 
         private boolean test() {
@@ -1314,14 +1323,25 @@ public final class LostSheets {
             ran++;
         }
 
-        /** The act of a drawer by the body that a kind has, or the next kind above that has one. */
-        int run(Drawer d, int kind, int act, int x, int depth) {
+        int ofAct(Drawer d, int act, int x) {
+            ran = 0;
+            if (d == null || act < 0 || act >= ACTS) {
+                return 0;
+            }
+            return run(d, d.kind, act, x, 0);
+        }
+
+        /** The act by the body that a kind has, or the next kind above that has one. */
+        private int run(Drawer d, int kind, int act, int x, int depth) {
             int body = bodyOf(kind, act);
             if (body == 0 || depth > DEEPEST) {
                 return 0;
             }
             begins(body);
-            int next = depth + 1;
+            return does(body, d, x, depth + 1);
+        }
+
+        private int does(int body, Drawer d, int x, int next) {
             switch (body) {
                 case 10: return x + d.number;
                 case 11: return run(d, d.kind, WEEPS, x, next) - d.v;

@@ -651,6 +651,26 @@ public final class PromisesTest {
         }
         due("20 done by three blanks", y.ends(1), 3);
         due("20 drawn by then", y.ends(0), 64 + 128);
+
+        LostSheets z = steady(0, 2, 4);
+        z.mark(6, 0);
+        z.mark(7, 0);
+        z.plan(3, 5);
+        for (int i = 0; i < 5; i++) {
+            z.plan(0, 0);
+        }
+        due("20 a blank one is like the other 0", z.ends(1), 3);
+
+        LostSheets w = steady(0, 2, 4);
+        feed(w, "know 9");
+        w.office();
+        w.pass(8);
+        w.plan(1, 0);
+        for (int i = 0; i < 9; i++) {
+            w.plan(0, 0);
+        }
+        due("20 an empty sheet has eight rows again", w.ends(1), 16);
+        due("20 its rows stay", w.of(0, 3), 8);
     }
 
     private static void book() {
@@ -779,6 +799,15 @@ public final class PromisesTest {
         due("25 nobody", y.undo(), 0);
         due("25 no office", y.told(1), 3);
         due("25 no drawer", y.count(0), 0);
+        y.drawer(6, 0, 0);
+        for (int part = 0; part < 4; part++) {
+            y.row(0, part, 9);
+        }
+        y.undo();
+        y.drawer(6, 0, 0);
+        for (int part = 0; part < 4; part++) {
+            due("25 a new one's row", y.row(0, part, 1), 0);
+        }
     }
 
     private static void act(LostSheets x, int drawer, int act, int in, int out, int... bodies) {
