@@ -354,6 +354,14 @@ public final class EdgesOfImagesAndActsTest {
                 acted(x, 0, act, 5, 0);
             }
         });
+        Edges.edge("26 act: 0, and no TRACE then: no such act, of any KIND", () -> {
+            for (int kind = 0; kind < 7; kind++) {
+                LostSheets x = Edges.with("", kind, 3, 0);
+                for (int act : Edges.outside(0, 2)) {
+                    acted(x, 0, act, 5, 0);
+                }
+            }
+        });
         Edges.edge("THE TRACE: of the latest act() alone", () -> {
             LostSheets x = Edges.with("", 6, 0, 0);
             Edges.due("tells", x.act(0, 2, 0), 7);

@@ -190,6 +190,13 @@ public final class EdgesOfOfficesTest {
             Edges.due("office", Edges.office(x, "know 2"), 0);
             Edges.due("know", x.told(1), 2);
         });
+        Edges.edge("by a FAULT nothing of its good clauses comes to the next OFFICE", () -> {
+            LostSheets x = Edges.with("", 0, 0, 0);
+            Edges.due("fault", Edges.office(x, "know 7;turn 9 p=0;back 1 p=0|"), -39);
+            Edges.due("office", Edges.office(x, "turn 5 p=0"), 0);
+            Edges.due("feel", x.of(0, 6), 5);
+            Edges.due("know", x.told(1), 3);
+        });
         Edges.edge("by a FAULT the one that held holds, also behind good clauses", () -> {
             LostSheets x = Edges.with("know 5;turn 7 p=0", 0, 0, 0);
             Edges.due("fault", Edges.office(x, "know 1;turn 9 p=0;x"), -28);
@@ -421,7 +428,10 @@ public final class EdgesOfOfficesTest {
         Object[][] cases = {{"!p=1&v=9", 0}, {"!p=1&v=0", 1}, {"!(p=1&v=9)", 1}, {"p=0|p=1&v=9", 1},
             {"(p=0|p=1)&v=9", 0}, {"v=9&p=1|p=0", 1}, {"v=9&(p=1|p=0)", 0}, {"!!p=0", 1}, {"!!!p=0", 0}, {"!!!!p=0", 1},
             {"((((p=0))))", 1}, {"((((p=1))))", 0}, {"!(!(p=0))", 1}, {"p=0&v=0&v=9", 0}, {"v=9|v=8|v=0", 1},
-            {"v=9|v=8|v=7", 0}, {"p=0&v=0|v=9&v=8", 1}, {"p=1&v=0|v=9&v=8|m=0&p=0", 1}};
+            {"v=9|v=8|v=7", 0}, {"p=0&v=0|v=9&v=8", 1}, {"p=1&v=0|v=9&v=8|m=0&p=0", 1},
+            {"p=0|(v=9|(v=9|v=9&v=9))", 1}, {"p=0&(p=0&(p=0&(p=0&v=0)))", 1}, {"p=0&(p=0&(p=0&(p=0&v=9)))", 0},
+            {"v=9|(v=9|(v=9|(v=9|v=0)))", 1}, {"v=9|(v=9|(v=9|(v=9|v=8)))", 0}, {"p=0|(v=9&(v=9|(v=9&v=9)))", 1},
+            {"v=9&(p=0|(p=0&(p=0|p=0)))", 0}, {"!(p=0&!(v=9|v=0))", 1}};
         for (Object[] c : cases) {
             Edges.edge("E: T or T|E. T: F or F&T. F: !F, (E): " + c[0], () -> {
                 LostSheets x = Edges.with("", 0, 0, 0);

@@ -190,6 +190,13 @@ public final class EdgesOfTheLandTest {
             x.anew(0);
             Edges.due("none again", x.of(0, 6), -3);
         });
+        Edges.edge("SHEPHERD: the half is cut toward 0 ahead of the MARK", () -> {
+            int[] sums = {-99, -5, -4, -3, -2, -1, 0, 1, 2, 3, 4, 5, 99};
+            int[] halves = {-49, -2, -2, -1, -1, 0, 0, 0, 1, 1, 2, 2, 49};
+            for (int i = 0; i < sums.length; i++) {
+                Edges.due("half of " + sums[i] + " where the mark is 0", feelOfKind(5, sums[i]), halves[i]);
+            }
+        });
         Edges.edge("SHEPHERD: as CHILD, and the MARK of the CELL it is AT", () -> {
             LostSheets x = Edges.with("back 7 p=0", 5, 4, 7);
             Edges.due("at 7", x.of(0, 6), -1 + 7);

@@ -105,6 +105,14 @@ public final class EdgesOfWhatIsAskedTest {
             Edges.due("came again", x.of(0, 8), 8192);
             Edges.due("here again", x.of(0, 9), 512);
         });
+        Edges.edge("CAME and HERE: CELLS 0 and 15", () -> {
+            LostSheets x = Edges.with("", 0, 0, 0, 0, 3, 15);
+            x.pass(1);
+            Edges.due("up to a 0: came", x.of(0, 8), 1 + 16 + 4096);
+            Edges.due("up to a 0: here", x.of(0, 9), 1 + 256);
+            Edges.due("down to a 7: came", x.of(1, 8), 8 + 2048 + 32768);
+            Edges.due("down to a 7: here", x.of(1, 9), 128 + 32768);
+        });
         Edges.edge("CAME: by its SHEET alone, wherever it is AT", () -> {
             LostSheets x = Edges.with("", 0, 0, 5);
             x.pass(1);
@@ -133,6 +141,23 @@ public final class EdgesOfWhatIsAskedTest {
         Edges.edge("LOOK: of all CELLS, those who stay, too", () -> {
             // Up: 0 .. 3 three times; left: 0 and 4 four times; right: 3 and 7 four times; down: 4 .. 7 three times.
             Edges.due("look", Edges.with("", 0, 0, 5).of(0, 10), 0);
+        });
+        int[] marks = {0, 1, 2, 3, 4, 5, 6, 7, 0, 1, 2, 2, 7, 5, 6, 7};
+        Edges.edge("LOOK: CELL 0 of HERE counts", () -> {
+            // At most 4, 4, 4 and 5 of one mark; without CELL 0 left would be 3.
+            LostSheets x = Edges.with("", 0, 0, 5);
+            for (int c = 0; c < 16; c++) {
+                x.mark(c, marks[c]);
+            }
+            Edges.due("look", x.of(0, 10), 0);
+        });
+        Edges.edge("LOOK: CELL 15 of HERE counts", () -> {
+            // The same land turned round: 5, 4, 4 and 4; without CELL 15 right would be 3.
+            LostSheets x = Edges.with("", 0, 0, 5);
+            for (int c = 0; c < 16; c++) {
+                x.mark(c, marks[15 - c]);
+            }
+            Edges.due("look", x.of(0, 10), 1);
         });
         Edges.edge("LOOK: of one CELL of HERE the first", () -> {
             LostSheets x = Edges.with("", 0, 0, 1);
@@ -387,6 +412,17 @@ public final class EdgesOfWhatIsAskedTest {
             Edges.due("office", Edges.office(x, "turn 3 h=1;know 2"), 1);
             fraction("1", x, 1, 1, 16);
         });
+        Edges.edge("ODDS: of the last of six, not of another", () -> {
+            // Five are done; the sixth is so by three hours from the two rows above.
+            LostSheets x = Edges.with("know 1", 0, 0, 0, 0, 0, 1, 0, 0, 2, 0, 0, 3, 0, 0, 4);
+            x.pass(1);
+            x.drawer(0, 3, 9);
+            Edges.due("office", Edges.office(x, Edges.STEADY), 1);
+            Edges.due("above", x.odds(5, 3, 0), 1);
+            Edges.due("below", x.odds(5, 3, 1), 2);
+            Edges.due("now above", x.odds(5, 0, 0), 0);
+            Edges.due("of the first", x.odds(0, 0, 0), 1);
+        });
         Edges.edge("ODDS: n HOURS (0 .. 20): 0, of one who is DONE", () -> {
             LostSheets x = Edges.with("know 1", 0, 0, 5);
             x.pass(1);
@@ -484,6 +520,50 @@ public final class EdgesOfWhatIsAskedTest {
             x.plan(2, 0);
             x.plan(0, 0);
             Edges.due("drew", x.ends(1), 8);
+        });
+        Edges.edge("A PLAN: 1 the SHEET has no rows, and room for 8 again", () -> {
+            LostSheets x = Edges.with("know 9", 0, 0, 0);
+            x.pass(8);
+            x.plan(1, 0);
+            for (int i = 1; i < 10; i++) {
+                x.plan(0, 0);
+                Edges.due("drew", x.ends(1), 8 + Math.min(i, 8));
+            }
+            Edges.due("rows now", x.of(0, 3), 8);
+        });
+        Edges.edge("A PLAN: 1 and 2 of the last of six alone", () -> {
+            LostSheets x = Edges.with("know 1", 0, 0, 0, 0, 0, 1, 0, 0, 2, 0, 0, 3, 0, 0, 4, 0, 0, 5);
+            x.pass(1);
+            x.plan(2, 5);
+            x.plan(0, 0);
+            Edges.due("one more", x.ends(1), 7);
+            Edges.due("done now", x.told(3), 63);
+            LostSheets y = Edges.with("know 9", 0, 0, 0, 0, 0, 1, 0, 0, 2, 0, 0, 3, 0, 0, 4, 0, 0, 5);
+            y.pass(8);
+            y.plan(1, 5);
+            y.plan(0, 0);
+            Edges.due("one more than 48", y.ends(1), 49);
+        });
+        Edges.edge("A PLAN: 3 MARK of CELL n is 0, no other number", () -> {
+            // A shepherd goes by the mark: by 0 up, by 1 or 5 left.
+            LostSheets x = Edges.with("", 5, 0, 5);
+            x.plan(3, 5);
+            x.plan(0, 0);
+            Edges.due("drawn", x.ends(0), 2);
+        });
+        Edges.edge("A PLAN: 3 MARK of CELL 0, of CELL 15", () -> {
+            LostSheets x = Edges.with("", 5, 1, 15);
+            x.plan(3, 15);
+            x.plan(0, 0);
+            Edges.due("by 15 no more 7 it goes up", x.ends(0), 2048);
+            LostSheets y = Edges.with("", 5, 1, 0);
+            y.mark(0, 3);
+            y.plan(0, 0);
+            Edges.due("by a 3 at 0 it goes down", y.ends(0), 16);
+            y.plan(-1, 0);
+            y.plan(3, 0);
+            y.plan(0, 0);
+            Edges.due("by a 0 it stays", y.ends(0), 1);
         });
         Edges.edge("A PLAN: 3 MARK of CELL n is 0, from then on", () -> {
             // At 12 it stays and draws: a 4, then two 0, and is done; with no 0 by two 4.
