@@ -92,6 +92,24 @@ public final class EdgesOfImagesAndActsTest {
             Edges.due("the next one's number", x.drawer(2, 3, 9), 1);
             Edges.due("its kind", x.of(1, 0), 2);
         });
+        Edges.edge("THE IMAGE: one that came behind it is none: neither DONE, nor AT a CELL, nor has it DREW", () -> {
+            LostSheets x = Edges.with("know 1", 3, 0, 0);
+            x.image();
+            for (int i = 1; i < 6; i++) {
+                x.drawer(0, 0, 0);
+            }
+            x.pass(1);
+            Edges.due("done", x.told(3), 63);
+            Edges.due("undo", x.undo(), 1);
+            Edges.due("done", x.told(3), 0);
+            Edges.due("feel of the lover", x.of(0, 6), 0);
+            Edges.due("drew", x.ends(1), 0);
+            Edges.due("mean above", x.mean(1, 0), 1);
+            Edges.due("mean below", x.mean(1, 1), 1);
+            Edges.due("done behind 1", x.on(1, 1), 1);
+            Edges.due("where the second is", x.on(1, 11), Edges.NONE);
+            Edges.due("crew", x.best(1, 0), 1);
+        });
         Edges.edge("THE IMAGE: a DRAWER that comes behind an undo has nothing of the one before", () -> {
             LostSheets x = Edges.with("know 1", new int[0]);
             x.image();
