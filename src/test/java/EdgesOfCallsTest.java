@@ -1,5 +1,15 @@
 /** The edges of each call but those of texts and tapes: every range, every refusal, and which of two comes first. */
 public final class EdgesOfCallsTest {
+    private static void constants() {
+        Edges.edge("the constants", () -> {
+            Edges.due("NONE", LostSheets.NONE, -1);
+            Edges.due("BAD", LostSheets.BAD, -2);
+            Edges.due("STATE", LostSheets.STATE, -3);
+            Edges.due("FULL", LostSheets.FULL, -4);
+            Edges.due("NO", LostSheets.NO, -9223372036854775808L);
+        });
+    }
+
     private static void newObject() {
         Edges.edge("1 a new object: no DRAWERS, no OFFICE, nothing told", () -> {
             LostSheets x = new LostSheets();
@@ -711,6 +721,7 @@ public final class EdgesOfCallsTest {
     }
 
     public static void main(String[] args) {
+        constants();
         newObject();
         drawer();
         of();

@@ -100,6 +100,7 @@ public final class EdgesOfImagesAndActsTest {
             }
             x.pass(1);
             Edges.due("done", x.told(3), 63);
+            Edges.due("drew of six", x.ends(1), 6);
             Edges.due("undo", x.undo(), 1);
             Edges.due("done", x.told(3), 0);
             Edges.due("feel of the lover", x.of(0, 6), 0);
